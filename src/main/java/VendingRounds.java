@@ -573,11 +573,14 @@ public final class VendingRounds {
         /** The first machine of a shortest way through a set that is not empty; of several the smallest number. */
         int nextStop(int here, int left) {
             int next = DEPOT;
-            int least = Integer.MAX_VALUE;
+            int least = 0;
             for (int machine = 0; machine < MOST_MACHINES; machine++) {
-                if (contains(left, machine) && leastBy(here, machine, left) < least) {
-                    next = machine;
-                    least = leastBy(here, machine, left);
+                if (contains(left, machine)) {
+                    int time = leastBy(here, machine, left);
+                    if (next == DEPOT || time < least) {
+                        next = machine;
+                        least = time;
+                    }
                 }
             }
             return next;

@@ -161,6 +161,10 @@ public final class RoundsTest {
         check.due("load 8, coins count", x.best(5000, 8), 4);
         x.planPrice(1, 0, 1, 300);
         check.due("load 8, higher price", x.best(5000, 8), 2);
+        VendingRounds poor = withMachines(2);
+        poor.setSlot(1, 0, 1, 0);
+        poor.planPrice(1, 0, 0, 1);
+        check.due("a gain of 1", poor.best(5000, 2000), 2);
     }
 
     // Promise 16
