@@ -205,14 +205,13 @@ public final class VendingRounds {
         survey();
         minutesSpent += roundTime(machines);
         roundsMade++;
-        int here = DEPOT;
         int left = machines;
         int loadLeft = load;
-        int stops = Integer.bitCount(machines);
-        for (int stop = 0; stop < stops; stop++) {
-            here = roads.nextStop(here, left);
-            left = without(left, here);
+        int here = roads.nextStop(DEPOT, left);
+        for (int stop = 0; stop < MOST_MACHINES && !isNoMachine(here); stop++) {
             loadLeft -= serve(machineList.get(here), loadLeft);
+            left = without(left, here);
+            here = roads.nextStop(here, left);
         }
         return loadLeft;
     }

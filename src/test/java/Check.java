@@ -10,6 +10,20 @@ final class Check {
 
     private int wrong = 0;
 
+    /** The words of the document that are being tested; empty if a test is not for one sentence. */
+    private String words = "";
+
+    /** Runs the test of one sentence of the document: what is wrong in it is told with the sentence. */
+    void sentence(String sentence, Runnable test) {
+        words = "\"" + sentence + "\" ";
+        try {
+            test.run();
+        } catch (RuntimeException e) {
+            tell("a call threw " + e);
+        }
+        words = "";
+    }
+
     void due(String call, long got, long want) {
         if (got != want) {
             tell(call + " answered " + got + ", due is " + want);
@@ -22,26 +36,38 @@ final class Check {
         }
     }
 
+    /** The call must throw exactly this exception, by a throw of the class itself and not of the machine or a list. */
+    void throwsIt(String what, Class<?> due, Call call) {
+        RuntimeException thrown = null;
+        try {
+            call.answer();
+        } catch (RuntimeException e) {
+            thrown = e;
+        }
+        if (thrown == null || thrown.getClass() != due) {
+            tell(what + " threw " + thrown + ", due is " + due);
+        } else if (!isThrownByTheClass(thrown)) {
+            tell(what + ": not the class itself threw " + thrown);
+        }
+    }
+
+    private static boolean isThrownByTheClass(RuntimeException thrown) {
+        StackTraceElement[] trace = thrown.getStackTrace();
+        return trace.length > 0 && trace[0].getClassName().startsWith("VendingRounds");
+    }
+
     /** The call must throw exactly this exception, and change nothing that can be seen. */
     void refused(String what, VendingRounds x, Class<?> due, Call call) {
         long digest = x.digest();
         double filled = x.filled();
-        Class<?> thrown = null;
-        try {
-            call.answer();
-        } catch (RuntimeException e) {
-            thrown = e.getClass();
-        }
-        if (thrown != due) {
-            tell(what + " threw " + thrown + ", due is " + due);
-        }
+        throwsIt(what, due, call);
         due(what + ": the digest after it", x.digest(), digest);
         dueDouble(what + ": filled() after it", x.filled(), filled);
     }
 
     void tell(String text) {
         wrong++;
-        System.out.println(text);
+        System.out.println(words + text);
     }
 
     void finish() {

